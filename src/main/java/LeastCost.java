@@ -58,16 +58,14 @@ public final class LeastCost {
     }
 
     public int term(int coefficient, int literal) {
-        boolean fits = isWithin(coefficient, 1, MOST_COEFFICIENT) && isVariable(variableOf(literal));
-        if (started || !fits || !problem.takesTerm(variableOf(literal))) {
+        if (started || !isWithin(coefficient, 1, MOST_COEFFICIENT) || !isVariable(variableOf(literal))) {
             return BAD;
         }
-        problem.addTerm(coefficient, literal);
-        return OK;
+        return problem.addTerm(coefficient, literal) ? OK : BAD;
     }
 
     public int end(int bound) {
-        if (started || !isWithin(bound, 0, MOST_BOUND) || !problem.takesConstraint()) {
+        if (started || !isWithin(bound, 0, MOST_BOUND)) {
             return BAD;
         }
         return problem.makeConstraint(bound);
@@ -195,23 +193,24 @@ public final class LeastCost {
         /** The variables of the constraint that is being made. */
         private int taken;
 
-        private boolean takesConstraint() {
-            return constraints < MOST_CONSTRAINTS;
-        }
-
-        private boolean takesTerm(int v) {
-            return takesConstraint() && terms < MOST_TERMS && (taken & bitOf(v)) == 0;
-        }
-
-        private void addTerm(int coefficient, int literal) {
+        private boolean addTerm(int coefficient, int literal) {
+            int bit = bitOf(variableOf(literal));
+            if (constraints >= MOST_CONSTRAINTS || terms >= MOST_TERMS || (taken & bit) != 0) {
+                return false;
+            }
             coefficients[terms] = coefficient;
             literals[terms] = literal;
-            bits[terms] = bitOf(variableOf(literal));
-            taken |= bits[terms];
+            bits[terms] = bit;
             terms++;
+            taken |= bit;
+            return true;
         }
 
+        /** The number of the constraint, BAD if there are too many. */
         private int makeConstraint(int bound) {
+            if (constraints >= MOST_CONSTRAINTS) {
+                return BAD;
+            }
             int number = constraints;
             bounds[number] = bound;
             constraints++;
@@ -223,9 +222,7 @@ public final class LeastCost {
         private int costOf(int ones) {
             int sum = 0;
             for (int v = 1; v <= VARIABLES; v++) {
-                if ((ones & bitOf(v)) != 0) {
-                    sum += costs[v];
-                }
+                sum += (ones >> (v - 1) & 1) * costs[v];
             }
             return sum;
         }
