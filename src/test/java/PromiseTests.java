@@ -57,66 +57,6 @@ public final class PromiseTests {
         due.is("1: the first constraint's number", 0, new LeastCost().end(7));
     }
 
-    /** Variables behind these are forced to 0 by a constraint. */
-    private static LeastCost withVariables(int free) {
-        LeastCost x = new LeastCost();
-        for (int v = free + 1; v <= 16; v++) {
-            x.term(1, -v);
-        }
-        x.end(16 - free);
-        return x;
-    }
-
-    /** 1 or 2 have to be 1; 1 costs 3, 2 costs 5. Its log is 1 0 0, and 3 and 1; it takes 21 steps. */
-    private static LeastCost oneOrTwo() {
-        LeastCost x = withVariables(2);
-        x.setCost(1, 3);
-        x.setCost(2, 5);
-        x.term(1, 1);
-        x.term(1, 2);
-        x.end(1);
-        return x;
-    }
-
-    /** No cost; 1 has to be 1 and 0. */
-    private static LeastCost impossible() {
-        LeastCost x = new LeastCost();
-        x.term(1, 1);
-        x.end(1);
-        x.term(1, -1);
-        x.end(1);
-        return x;
-    }
-
-    /** At least the bound by these coefficients, and at most less than it by one: there is none. */
-    private static LeastCost contradiction(int bound, int... coefficients) {
-        int free = coefficients.length;
-        LeastCost x = withVariables(free);
-        int sum = 0;
-        for (int v = 1; v <= free; v++) {
-            x.term(coefficients[v - 1], v);
-            sum += coefficients[v - 1];
-        }
-        x.end(bound);
-        for (int v = 1; v <= free; v++) {
-            x.term(coefficients[v - 1], -v);
-        }
-        x.end(sum - bound + 1);
-        return x;
-    }
-
-    /** All eight clauses over 1 .. 3: no variable alone breaks one, two of them do. */
-    private static LeastCost eightClauses() {
-        LeastCost x = withVariables(3);
-        for (int signs = 0; signs < 8; signs++) {
-            for (int v = 1; v <= 3; v++) {
-                x.term(1, (signs >> (v - 1) & 1) == 0 ? v : -v);
-            }
-            x.end(1);
-        }
-        return x;
-    }
-
     private static void log(String where, LeastCost x, int... words) {
         due.is(where + ": logSize()", words.length, x.logSize());
         for (int i = 0; i < words.length; i++) {
@@ -134,7 +74,7 @@ public final class PromiseTests {
     }
 
     private static void costsAreSet() {
-        LeastCost x = withVariables(0);
+        LeastCost x = Problems.withVariables(0);
         due.is("2: setCost(1, 0)", 0, x.setCost(1, 0));
         due.is("2: setCost(16, 32767)", 0, x.setCost(16, 32767));
         x.term(1, 16);
@@ -153,7 +93,7 @@ public final class PromiseTests {
     }
 
     private static void costsThatAreBad() {
-        LeastCost x = oneOrTwo();
+        LeastCost x = Problems.oneOrTwo();
         int[][] wrong = {{0, 1}, {17, 1}, {-1, 1}, {LEAST, 1}, {MOST, 1}, {1, -1}, {1, 32768}, {1, LEAST}, {1, MOST}};
         for (int[] call : wrong) {
             due.is("2: setCost(" + call[0] + ", " + call[1] + ")", BAD, x.setCost(call[0], call[1]));
@@ -230,7 +170,7 @@ public final class PromiseTests {
     }
 
     private static void nothingIsBuiltBehindTheFirstRun() {
-        LeastCost x = oneOrTwo();
+        LeastCost x = Problems.oneOrTwo();
         due.is("5: run(0)", BAD, x.run(0));
         due.is("5: run(2001)", BAD, x.run(2001));
         due.is("2: behind a run that is BAD", 0, x.setCost(1, 3));
@@ -248,7 +188,7 @@ public final class PromiseTests {
     }
 
     private static void theSearchGoesInToldSteps() {
-        LeastCost x = oneOrTwo();
+        LeastCost x = Problems.oneOrTwo();
         due.is("5: 3 .. 16 are forced", MORE, x.run(14));
         log("5", x);
         due.is("5: a choice", MORE, x.run(1));
@@ -281,7 +221,7 @@ public final class PromiseTests {
 
     /** By constraints, then terms: what is broken behind it shows in the steps. */
     private static void theFirstForcedLiteralIsSet() {
-        LeastCost x = withVariables(3);
+        LeastCost x = Problems.withVariables(3);
         x.term(2, 3);
         x.term(5, -2);
         x.term(1, 1);
@@ -307,7 +247,7 @@ public final class PromiseTests {
 
     /** A constraint and the limit both force a literal of 3: the constraint's is set. */
     private static void theLimitForcesBehindTheConstraints() {
-        LeastCost x = withVariables(3);
+        LeastCost x = Problems.withVariables(3);
         x.setCost(1, 2);
         x.setCost(2, 3);
         x.setCost(3, 1);
@@ -326,7 +266,7 @@ public final class PromiseTests {
     }
 
     private static void fuelHasAnEnd() {
-        LeastCost x = oneOrTwo();
+        LeastCost x = Problems.oneOrTwo();
         for (int fuel : new int[] {0, -1, 2001, LEAST, MOST}) {
             due.is("5: run(" + fuel + ")", BAD, x.run(fuel));
         }
@@ -338,7 +278,7 @@ public final class PromiseTests {
     }
 
     private static void termsOfNoConstraintAreGone() {
-        LeastCost x = oneOrTwo();
+        LeastCost x = Problems.oneOrTwo();
         due.is("3: term(9, -1)", 0, x.term(9, -1));
         due.is("3: term(9, -2)", 0, x.term(9, -2));
         due.is("5: run(2000)", 1, x.run(2000));
@@ -348,7 +288,7 @@ public final class PromiseTests {
     }
 
     private static void theOptimumIsToldWhenDone() {
-        LeastCost x = impossible();
+        LeastCost x = Problems.impossible();
         due.is("6: before", NOT_DONE, x.optimum());
         due.is("5: run(1)", MORE, x.run(1));
         due.is("6: on the way", NOT_DONE, x.optimum());
@@ -356,7 +296,7 @@ public final class PromiseTests {
         due.is("6: there is none", -1, x.optimum());
         due.is("7: there is none", BAD, x.value(1));
         log("5", x, 0, -1, 0);
-        LeastCost y = oneOrTwo();
+        LeastCost y = Problems.oneOrTwo();
         y.run(2000);
         y.poke(3, 77);
         y.poke(4, 2);
@@ -366,7 +306,7 @@ public final class PromiseTests {
     }
 
     private static void valuesOfTheBest() {
-        LeastCost x = oneOrTwo();
+        LeastCost x = Problems.oneOrTwo();
         x.run(2000);
         due.is("7: value(1)", 1, x.value(1));
         for (int v = 2; v <= 16; v++) {
@@ -378,7 +318,7 @@ public final class PromiseTests {
     }
 
     private static void aLogThatIsJustShortEnough() {
-        LeastCost x = contradiction(11, 1, 3, 3, 2, 3, 1, 1, 2, 2, 3, 2);
+        LeastCost x = Problems.contradiction(11, 1, 3, 3, 2, 3, 1, 1, 2, 2, 3, 2);
         due.is("5: run(932)", MORE, x.run(932));
         due.is("8: logSize()", 396, x.logSize());
         due.is("5: run(1)", 1, x.run(1));
@@ -397,7 +337,7 @@ public final class PromiseTests {
     }
 
     private static void aLogThatIsTooLong() {
-        LeastCost x = contradiction(12, 3, 3, 1, 1, 1, 3, 3, 3, 2, 3, 2);
+        LeastCost x = Problems.contradiction(12, 3, 3, 1, 1, 1, 3, 3, 3, 2, 3, 2);
         due.is("5: run(1012)", MORE, x.run(1012));
         due.is("8: logSize()", 398, x.logSize());
         due.is("5: the last word has no room", NO_ROOM, x.run(1));
@@ -418,7 +358,7 @@ public final class PromiseTests {
     }
 
     private static void wordsOfTheLog() {
-        LeastCost x = oneOrTwo();
+        LeastCost x = Problems.oneOrTwo();
         due.is("9: logAt(0)", NO_WORD, x.logAt(0));
         x.run(2000);
         log("9", x, 1, 0, 0, 3, 1);
@@ -428,7 +368,7 @@ public final class PromiseTests {
     }
 
     private static void wordsArePoked() {
-        LeastCost x = oneOrTwo();
+        LeastCost x = Problems.oneOrTwo();
         x.run(20);
         due.is("10: before it is done", BAD, x.poke(0, 2));
         due.is("10: before it is done, behind", BAD, x.poke(2, 2));
@@ -451,7 +391,7 @@ public final class PromiseTests {
     }
 
     private static void wordsAreCut() {
-        LeastCost x = oneOrTwo();
+        LeastCost x = Problems.oneOrTwo();
         x.run(20);
         due.is("11: before it is done", BAD, x.cut(1));
         log("11", x, 1, 0);
@@ -473,7 +413,7 @@ public final class PromiseTests {
     }
 
     private static void theCheckGoesWordByWord() {
-        LeastCost x = oneOrTwo();
+        LeastCost x = Problems.oneOrTwo();
         x.run(2000);
         due.is("12: check(1)", MORE, x.check(1));
         due.is("12: check(0)", BAD, x.check(0));
@@ -493,7 +433,7 @@ public final class PromiseTests {
     }
 
     private static void theCheckWantsASearchThatIsDone() {
-        LeastCost x = oneOrTwo();
+        LeastCost x = Problems.oneOrTwo();
         due.is("12: before", NOT_DONE, x.check(1));
         x.run(20);
         due.is("12: on the way", NOT_DONE, x.check(2000));
@@ -506,7 +446,7 @@ public final class PromiseTests {
     }
 
     private static void theCheckBeginsAnew() {
-        LeastCost x = oneOrTwo();
+        LeastCost x = Problems.oneOrTwo();
         x.run(2000);
         due.is("12: check(2)", MORE, x.check(2));
         due.is("10: poke(0, 2)", 0, x.poke(0, 2));
@@ -523,7 +463,7 @@ public final class PromiseTests {
     }
 
     private static void claimsThatAreWrong() {
-        LeastCost x = oneOrTwo();
+        LeastCost x = Problems.oneOrTwo();
         x.run(2000);
         write("12: no words", x);
         due.is("12: no words", 0, x.check(1));
@@ -544,7 +484,7 @@ public final class PromiseTests {
         due.is("12: 16 has to be 0", 0, x.check(2000));
         write("12", x, 1, 0, 0, 5, 2);
         due.is("12: fulfilled, but not the least", 0, x.check(2000));
-        LeastCost y = impossible();
+        LeastCost y = Problems.impossible();
         y.run(2000);
         write("12", y, 0, -1, 12345);
         due.is("12: claim -1, any variables", 1, y.check(2000));
@@ -553,7 +493,7 @@ public final class PromiseTests {
     }
 
     private static void treesThatAreWrong() {
-        LeastCost x = eightClauses();
+        LeastCost x = Problems.eightClauses();
         due.is("12: run(2000)", 1, x.run(2000));
         log("12", x, 1, 2, 0, 0, 2, 0, 0, -1, 0);
         int[][] wrong = {
@@ -566,7 +506,7 @@ public final class PromiseTests {
     }
 
     private static void treesThatAreRight() {
-        LeastCost x = eightClauses();
+        LeastCost x = Problems.eightClauses();
         x.run(2000);
         int[][] right = {
             {1, 2, 0, 0, 2, 0, 0}, {3, 2, 0, 0, 1, 0, 0}, {2, 3, 0, 0, 1, 0, 0},
@@ -579,7 +519,7 @@ public final class PromiseTests {
         for (int[] tree : right) {
             due.is("12: tree " + java.util.Arrays.toString(tree), 1, checkTree(x, tree));
         }
-        LeastCost y = oneOrTwo();
+        LeastCost y = Problems.oneOrTwo();
         y.run(2000);
         write("12", y, 0, 3, 1);
         due.is("12: the limit alone closes it", 1, y.check(1));
@@ -594,7 +534,7 @@ public final class PromiseTests {
 
     /** As many open trees as a log has room for: each word but the last 199 splits by the same one. */
     private static void theDeepestTree() {
-        LeastCost x = impossible();
+        LeastCost x = Problems.impossible();
         x.run(2000);
         x.cut(0);
         for (int i = 0; i < 397; i++) {
@@ -603,7 +543,7 @@ public final class PromiseTests {
         x.poke(397, -1);
         x.poke(398, 0);
         due.is("12: a deep tree", 1, x.check(2000));
-        LeastCost y = impossible();
+        LeastCost y = Problems.impossible();
         y.run(2000);
         y.cut(0);
         for (int i = 0; i < 398; i++) {
@@ -627,7 +567,7 @@ public final class PromiseTests {
         log("5", x, 0, 16 * 32767, 65535);
         due.is("13: steps()", 18, x.steps());
         due.is("12: check(1)", 1, x.check(1));
-        LeastCost y = withVariables(1);
+        LeastCost y = Problems.withVariables(1);
         y.setCost(1, 32767);
         y.term(32767, 1);
         y.end(32767);
