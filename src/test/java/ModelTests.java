@@ -196,6 +196,10 @@ public final class ModelTests {
             for (int m = 0; m < 500 && verdict == 2; m++) {
                 verdict = check(below(3) == 0 ? 2000 : 1 + below(3));
             }
+            if (verdict == 1) {
+                // whatever the model says of it: no other log may be taken for right
+                due.is(name + "what a right log claims", model.optimum(), model.logAt(model.logSize() - 2));
+            }
             answers[2] += verdict == 1 ? 1 : 0;
             answers[3] += verdict == 0 ? 1 : 0;
             check(1 + below(2000));
